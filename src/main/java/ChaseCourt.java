@@ -672,14 +672,6 @@ public final class ChaseCourt {
             }
         }
 
-        /** The line that rules ask for: of the chase played off, else of the latest one. */
-        int lineNow() {
-            if (chases == 0) {
-                return LINES;
-            }
-            return off || chases == 1 ? line : nextLine;
-        }
-
         int strike(int how, int where, Laws laws) {
             int whose = how == WON ? SERVER : how == LOST ? STRIKER : NOBODY;
             if (off) {
@@ -893,7 +885,7 @@ public final class ChaseCourt {
                 case Scanner.HIS:
                     return 3 + (player == 0 ? score.second : score.first);
                 case Scanner.LINE:
-                    return score.lineNow();
+                    return score.chases == 0 ? LINES : score.off || score.chases == 1 ? score.line : score.nextLine;
                 case Scanner.CHASES:
                     return score.chases;
                 case Scanner.GAMES:
@@ -1365,7 +1357,7 @@ public final class ChaseCourt {
             makeRoom();
             from.become(places.keyAt(place - WAYS));
             int outcomes = from.off ? 3 : OUTCOMES;
-            fillWeights();
+            fillWeights(stand.pairOf(from));
             base[place] = used;
             for (int outcome = 0; outcome < outcomes; outcome++) {
                 if (mayCome(outcome)) {
@@ -1382,8 +1374,8 @@ public final class ChaseCourt {
         }
 
         /** While a chase is played off, outcomes are whose point it is; else they are those of the court. */
-        private void fillWeights() {
-            int pair = stand.pairOf(from);
+        private void fillWeights(int rulesPair) {
+            int pair = rulesPair;
             int step = 0;
             if (chooser != NONE) {
                 boolean serves = chooser == from.server;
