@@ -232,6 +232,10 @@ public final class PromisesTest {
         ruleFault("style 1 if ()", 12);
         ruleFault("style 1 if not", 14);
         ruleFault("style 1 if off or", 17);
+        ruleFault("style 1 if off and", 18);
+        ruleFault("style 1 if off and not", 22);
+        ruleFault("style 1 ifoff", 8);
+        ruleFault("style 1 if 1 2 < 3", 13);
         ruleFault("style 1 if or off", 11);
         ruleFault("style 1 if and", 11);
         ruleFault("style 1 if mine < off", 18);
@@ -338,6 +342,29 @@ public final class PromisesTest {
         Check.same("9 first", x.style(0), 2);
         x.plays(0, Check.rule(x, "style 1 if 0 > 1"));
         Check.same("9 without", x.style(0), 0);
+        x.plays(0, Check.rule(x, "style 1 if 0 > 1;".repeat(11) + "style 3"));
+        Check.same("9 the 12th line", x.style(0), 3);
+        fullTexts();
+    }
+
+    /** Texts that fill the tape, with as many things as there are bytes. */
+    private static void fullTexts() {
+        courtFault(" ".repeat(400), -1);
+        courtFault(";".repeat(400), 0);
+        ruleFault("(".repeat(400), 0);
+        String sum = "style 1 if " + "1+".repeat(193) + "1<9";
+        ruleFault(sum, -1);
+        ruleFault(sum.substring(0, 398) + "+9", 400);
+        ruleFault(sum.substring(0, 398) + "<+", 399);
+        ChaseCourt x = new ChaseCourt();
+        x.plays(0, Check.rule(x, "style 2 if 181<" + "1+".repeat(180) + "1;style 3"));
+        Check.same("9 a sum of 181", x.style(0), 3);
+        x.plays(0, Check.rule(x, "style 2 if 180<" + "1+".repeat(180) + "1;style 3"));
+        Check.same("9 a sum of 181", x.style(0), 2);
+        // six levels, in each of which an "or" and an "and" wait for what is inside
+        String deep = "off or 1>0 and (".repeat(6) + "off or 1>0 and 1+1<1+1+1" + ")".repeat(6);
+        holds(x, 1, deep, true);
+        holds(x, 1, deep.replace("1+1<1+1+1", "1+1+1<1+1"), false);
     }
 
     private static void score() {
@@ -671,6 +698,9 @@ public final class PromisesTest {
         // PLAYER 1 needs one point more in the game to come: by one rally .5
         x.score(2, 3, 0);
         Check.same("20 from BEGIN", x.set(1, 1), 250000000);
+        ChaseCourt y = new ChaseCourt();
+        Check.court(y, "games 6;rally 0 0 won 100;rally 0 0 lost 0");
+        Check.same("20 all games", y.set(0, 4) + " " + y.set(1, 4) + " " + y.set(0, 3), "1000000000 0 0");
     }
 
     private static void ways() {
@@ -729,6 +759,19 @@ public final class PromisesTest {
         Check.same("22 who is at END 0", x.even(30, 60000), -1);
         x.games(1, 0);
         Check.same("22 also when the set is over", x.even(30, 500000), 0);
+        evenByRules();
+    }
+
+    /** PLAYER 0 loses until the other has 3; then all is his, but for the first point from -3, which is by chance. */
+    private static void evenByRules() {
+        ChaseCourt x = new ChaseCourt();
+        Check.court(x, "rally 0 0 won 0;rally 0 0 lost 100;rally 2 0 won 100;rally 2 0 lost 0");
+        x.plays(0, Check.rule(x, "style 1 if mine < 1 and his > 5;style 2 if his > 5"));
+        Check.same("22 from -3 3 it takes 8 rallies", x.even(8, 0), 33);
+        Check.same("22 from -3 2 one more", x.even(9, 0), 32);
+        Check.same("22 from -3 1 one more", x.even(10, 0), 31);
+        Check.same("22 from -3 0 one more", x.even(11, 0), 30);
+        Check.same("22 fewer", x.even(7, 0), -1);
     }
 
     private static int log(ChaseCourt x, String text, int what) {

@@ -2,11 +2,12 @@ import com.sun.management.ThreadMXBean;
 import java.lang.management.ManagementFactory;
 import java.util.Random;
 
-/** What a run of 512 dear calls makes must fit into the one room of all calls. */
+/** What a run of dear calls makes, that come again and again, must fit into the one room of all calls. */
 public final class RoomTest {
     private static final ThreadMXBean THREADS = (ThreadMXBean) ManagementFactory.getThreadMXBean();
     /** The room has 7.3 million fields and elements; most of ours are ints. */
     private static final long MOST = 6_000_000L;
+    private static final int CALLS = 200;
     private static int wrong;
 
     private static long made() {
@@ -60,11 +61,11 @@ public final class RoomTest {
         long before = made();
         long begin = System.nanoTime();
         ChaseCourt x = wide ? busy() : new ChaseCourt();
-        for (int i = 0; i < 400; i++) {
+        for (int i = 0; i < CALLS; i++) {
             call.on(x, i);
         }
         long bytes = made() - before;
-        System.out.println("  400 of " + name + ": " + bytes + " bytes made, " + (System.nanoTime() - begin) / 1000000 + " ms");
+        System.out.println("  " + CALLS + " of " + name + ": " + bytes + " bytes made, " + (System.nanoTime() - begin) / 1000000 + " ms");
         if (bytes / 4 > MOST) {
             wrong++;
             System.out.println(name + ": too much is made");
