@@ -1036,10 +1036,6 @@ public final class ChaseCourt {
             return things[at];
         }
 
-        int number() {
-            return numbers[at];
-        }
-
         /** Where the thing begins; the text's length behind the last one. */
         int place() {
             return begins[at];
@@ -1052,21 +1048,19 @@ public final class ChaseCourt {
         }
 
         boolean passes(int thing) {
-            if (things[at] != thing) {
+            if (at >= size || things[at] != thing) {
                 return false;
             }
-            pass();
+            at++;
             return true;
         }
 
         /** The number that stands there, if its place allows it; else NONE, and it is not passed. */
         int passNumber(int least, int most) {
-            if (things[at] != NUMBER || numbers[at] < least || numbers[at] > most) {
+            if (at >= size || things[at] != NUMBER || numbers[at] < least || numbers[at] > most) {
                 return NONE;
             }
-            int number = numbers[at];
-            pass();
-            return number;
+            return numbers[at++];
         }
     }
 
@@ -1077,6 +1071,8 @@ public final class ChaseCourt {
 
         private final int[] code = new int[MOST_BYTES];
         private int size;
+        /** Where the latest line tells how long its condition is. */
+        private int head;
         private Scanner scanner;
 
         /** The first wrong byte, or NONE. */
@@ -1087,8 +1083,11 @@ public final class ChaseCourt {
                 return NONE;
             }
             for (int n = 0; n < MOST_TEXT_LINES; n++) {
-                if (!readLine()) {
+                if (!readHead() || scanner.passes(Scanner.IF) && !readAny(0)) {
                     return scanner.place();
+                }
+                if (head < code.length) {
+                    code[head] = size - head - 1;
                 }
                 if (scanner.thing() == Scanner.END) {
                     return NONE;
@@ -1104,7 +1103,7 @@ public final class ChaseCourt {
             return Arrays.copyOf(code, size);
         }
 
-        private boolean readLine() {
+        private boolean readHead() {
             if (!scanner.passes(Scanner.STYLE)) {
                 return false;
             }
@@ -1113,16 +1112,9 @@ public final class ChaseCourt {
                 return false;
             }
             write(style);
-            int head = size;
+            head = size;
             write(0);
-            if (!scanner.passes(Scanner.IF)) {
-                return true;
-            }
-            boolean right = readAny(0);
-            if (head < code.length) {
-                code[head] = size - head - 1;
-            }
-            return right;
+            return true;
         }
 
         private boolean readAny(int depth) {
@@ -1193,32 +1185,30 @@ public final class ChaseCourt {
         }
 
         private boolean readSum() {
-            if (!readPart()) {
-                return false;
-            }
-            for (int n = 0; n < MOST_BYTES && scanner.passes(Scanner.PLUS); n++) {
-                if (!readPart()) {
+            for (int n = 0; n < MOST_BYTES; n++) {
+                int thing = scanner.thing();
+                int number = scanner.passNumber(0, 999);
+                if (number != NONE) {
+                    write(NUMBERS + number);
+                } else if (isPart(thing)) {
+                    write(thing);
+                    scanner.pass();
+                } else {
                     return false;
                 }
-                write(Scanner.PLUS);
+                if (n > 0) {
+                    write(Scanner.PLUS);
+                }
+                if (!scanner.passes(Scanner.PLUS)) {
+                    return true;
+                }
             }
-            return true;
+            return false;
         }
 
-        private boolean readPart() {
-            int thing = scanner.thing();
-            if (thing == Scanner.NUMBER) {
-                int number = scanner.passNumber(0, 999);
-                write(NUMBERS + number);
-                return number != NONE;
-            }
-            boolean right = thing == Scanner.MINE || thing == Scanner.HIS || thing == Scanner.LINE
-                || thing == Scanner.CHASES || thing == Scanner.GAMES;
-            if (right) {
-                write(thing);
-                scanner.pass();
-            }
-            return right;
+        private static boolean isPart(int thing) {
+            return thing == Scanner.MINE || thing == Scanner.HIS || thing == Scanner.LINE || thing == Scanner.CHASES
+                || thing == Scanner.GAMES;
         }
 
         /** A thing of the text gives one number at most, and so the code has room for all of them. */
