@@ -114,68 +114,55 @@ public final class PromisesTest {
         Check.same("4 the tape is used up", x.end(1), false);
     }
 
-    private static void courtFault(String text, int due) {
-        ChaseCourt x = new ChaseCourt();
-        Check.put(x, text);
-        String got;
-        try {
-            got = "right " + x.court();
-        } catch (IllegalArgumentException e) {
-            got = "wrong";
-        }
-        Check.same("4 court '" + text + "'", got, due < 0 ? "right 1" : "wrong");
-        Check.same("6 fault of '" + text + "'", x.fault(), due);
-    }
-
     private static void courtFaults() {
-        courtFault("", -1);
-        courtFault(" ; ", 1);
-        courtFault("  club 1 ;  ", 12);
-        courtFault("club 1 ;; club 1", 8);
-        courtFault("club", 4);
-        courtFault("club   ", 7);
-        courtFault("clubs 1", 0);
-        courtFault("Club 1", 0);
-        courtFault("club 1 even 1", 7);
-        courtFault("club 1 2", 7);
-        courtFault("club 12", 5);
-        courtFault("club 002", -1);
-        courtFault("club 0002", 5);
-        courtFault("club 1\n", 6);
-        courtFault("club\t1", 4);
-        courtFault("club (1", 5);
-        courtFault("games 0", 6);
-        courtFault("games 7", 6);
-        courtFault("games 6", -1);
-        courtFault("games one", 6);
-        courtFault("even 2", 5);
-        courtFault("even1", -1);
-        courtFault("style 1", 0);
-        courtFault("won 1", 0);
-        courtFault("5", 0);
-        courtFault("rally", 5);
-        courtFault("rally 4 0 won 50", 6);
-        courtFault("rally 3 4 won 50", 8);
-        courtFault("rally 3 won 50", 8);
-        courtFault("rally 33 won 50", 6);
-        courtFault("rally 3 3 50", 10);
-        courtFault("rally 3 3 won 101", 14);
-        courtFault("rally 3 3 won 100", 17);
-        courtFault("rally 3 3 won 100;rally 3 3 lost 0", -1);
-        courtFault("rally 3 3 won 100 ;rally 3 3 lost 1 ", 36);
-        courtFault("rally 3 3 dead 10 5", 15);
-        courtFault("rally 3 3 dead 5", 16);
-        courtFault("rally 3 3 dead 5 0", -1);
-        courtFault("rally 3 3 dead won", 15);
-        courtFault("rally 3 3 won 50" + (char) 233, 16);
+        Check.courtFault("", -1);
+        Check.courtFault(" ; ", 1);
+        Check.courtFault("  club 1 ;  ", 12);
+        Check.courtFault("club 1 ;; club 1", 8);
+        Check.courtFault("club", 4);
+        Check.courtFault("club   ", 7);
+        Check.courtFault("clubs 1", 0);
+        Check.courtFault("Club 1", 0);
+        Check.courtFault("club 1 even 1", 7);
+        Check.courtFault("club 1 2", 7);
+        Check.courtFault("club 12", 5);
+        Check.courtFault("club 002", -1);
+        Check.courtFault("club 0002", 5);
+        Check.courtFault("club 1\n", 6);
+        Check.courtFault("club\t1", 4);
+        Check.courtFault("club (1", 5);
+        Check.courtFault("games 0", 6);
+        Check.courtFault("games 7", 6);
+        Check.courtFault("games 6", -1);
+        Check.courtFault("games one", 6);
+        Check.courtFault("even 2", 5);
+        Check.courtFault("even1", -1);
+        Check.courtFault("style 1", 0);
+        Check.courtFault("won 1", 0);
+        Check.courtFault("5", 0);
+        Check.courtFault("rally", 5);
+        Check.courtFault("rally 4 0 won 50", 6);
+        Check.courtFault("rally 3 4 won 50", 8);
+        Check.courtFault("rally 3 won 50", 8);
+        Check.courtFault("rally 33 won 50", 6);
+        Check.courtFault("rally 3 3 50", 10);
+        Check.courtFault("rally 3 3 won 101", 14);
+        Check.courtFault("rally 3 3 won 100", 17);
+        Check.courtFault("rally 3 3 won 100;rally 3 3 lost 0", -1);
+        Check.courtFault("rally 3 3 won 100 ;rally 3 3 lost 1 ", 36);
+        Check.courtFault("rally 3 3 dead 10 5", 15);
+        Check.courtFault("rally 3 3 dead 5", 16);
+        Check.courtFault("rally 3 3 dead 5 0", -1);
+        Check.courtFault("rally 3 3 dead won", 15);
+        Check.courtFault("rally 3 3 won 50" + (char) 233, 16);
         String twelve = "even 1;even 0;even 1;even 0;even 1;even 0;even 1;even 0;even 1;even 0;even 1;even 0";
-        courtFault(twelve, -1);
-        courtFault(twelve + " ;  even 1", twelve.length() + 4);
-        courtFault(twelve + ";;", twelve.length() + 1);
-        courtFault(twelve + "; ", twelve.length() + 2);
-        courtFault(twelve + "; 12", twelve.length() + 2);
+        Check.courtFault(twelve, -1);
+        Check.courtFault(twelve + " ;  even 1", twelve.length() + 4);
+        Check.courtFault(twelve + ";;", twelve.length() + 1);
+        Check.courtFault(twelve + "; ", twelve.length() + 2);
+        Check.courtFault(twelve + "; 12", twelve.length() + 2);
         // a sum that is wrong in between alone is right
-        courtFault("rally 0 1 won 60;rally 0 1 won 50", -1);
+        Check.courtFault("rally 0 1 won 60;rally 0 1 won 50", -1);
     }
 
     private static void rule() {
@@ -194,65 +181,51 @@ public final class PromisesTest {
         Check.same("6 the latest text", x.fault(), -1);
     }
 
-    private static void ruleFault(String text, int due) {
-        ChaseCourt x = new ChaseCourt();
-        Check.put(x, text);
-        String got;
-        try {
-            got = "right " + x.rule();
-        } catch (IllegalArgumentException e) {
-            got = "wrong";
-        }
-        Check.same("5 rule '" + text + "'", got, due < 0 ? "right 0" : "wrong");
-        Check.same("6 fault of '" + text + "'", x.fault(), due);
-        Check.same("5 count", x.count(1), due < 0 ? 1 : 0);
-    }
-
     private static void ruleFaults() {
-        ruleFault(" ", -1);
-        ruleFault("style 3", -1);
-        ruleFault("style3if serving", -1);
-        ruleFault("style 4", 6);
-        ruleFault("style 0003", 6);
-        ruleFault("style 1 if off ;style 2", -1);
-        ruleFault("style 1 if off; ", 16);
-        ruleFault("style 1 if serving off", 19);
-        ruleFault("style 1 if serving < 1", 19);
-        ruleFault("style 1 if mine < his", -1);
-        ruleFault("style 1 if mine > his < 3", 22);
-        ruleFault("style 1 if mine = 3", 16);
-        ruleFault("style 1 if mine and off", 16);
-        ruleFault("style 1 if mine + < 3", 18);
-        ruleFault("style 1 if mine + 999 < 3", -1);
-        ruleFault("style 1 if mine + 1000 < 3", 18);
-        ruleFault("style 1 if mine < ", 18);
-        ruleFault("style 1 if (mine) < 3", 16);
-        ruleFault("style 1 if (mine + his < 3", 26);
-        ruleFault("style 1 if off)", 14);
-        ruleFault("style 1 if ()", 12);
-        ruleFault("style 1 if not", 14);
-        ruleFault("style 1 if off or", 17);
-        ruleFault("style 1 if off and", 18);
-        ruleFault("style 1 if off and not", 22);
-        ruleFault("style 1 ifoff", 8);
-        ruleFault("style 1 if 1 2 < 3", 13);
-        ruleFault("style 1 if or off", 11);
-        ruleFault("style 1 if and", 11);
-        ruleFault("style 1 if mine < off", 18);
-        ruleFault("style 1 if mines < 3", 11);
-        ruleFault("style 1 if ((((((off))))))", -1);
-        ruleFault("style 1 if (((((((off)))))))", 17);
-        ruleFault("style 1 if not not not not not not off", -1);
-        ruleFault("style 1 if not not not not not not not off", 35);
-        ruleFault("style 1 if not ( not ( not ( off ) and not not off ) )", -1);
-        ruleFault("style 1 if not ( not ( not ( not off ) and not not off ) )", 29);
-        ruleFault("style 1 if ((((((off)))))) and ((((((off or serving))))))", -1);
-        ruleFault("rally 0 0 won 50", 0);
-        ruleFault("style 1 if games + chases + line + 7 > 1 + 2", -1);
+        Check.ruleFault(" ", -1);
+        Check.ruleFault("style 3", -1);
+        Check.ruleFault("style3if serving", -1);
+        Check.ruleFault("style 4", 6);
+        Check.ruleFault("style 0003", 6);
+        Check.ruleFault("style 1 if off ;style 2", -1);
+        Check.ruleFault("style 1 if off; ", 16);
+        Check.ruleFault("style 1 if serving off", 19);
+        Check.ruleFault("style 1 if serving < 1", 19);
+        Check.ruleFault("style 1 if mine < his", -1);
+        Check.ruleFault("style 1 if mine > his < 3", 22);
+        Check.ruleFault("style 1 if mine = 3", 16);
+        Check.ruleFault("style 1 if mine and off", 16);
+        Check.ruleFault("style 1 if mine + < 3", 18);
+        Check.ruleFault("style 1 if mine + 999 < 3", -1);
+        Check.ruleFault("style 1 if mine + 1000 < 3", 18);
+        Check.ruleFault("style 1 if mine < ", 18);
+        Check.ruleFault("style 1 if (mine) < 3", 16);
+        Check.ruleFault("style 1 if (mine + his < 3", 26);
+        Check.ruleFault("style 1 if off)", 14);
+        Check.ruleFault("style 1 if ()", 12);
+        Check.ruleFault("style 1 if not", 14);
+        Check.ruleFault("style 1 if off or", 17);
+        Check.ruleFault("style 1 if off and", 18);
+        Check.ruleFault("style 1 if off and not", 22);
+        Check.ruleFault("style 1 ifoff", 8);
+        Check.ruleFault("style 1 if 1 2 < 3", 13);
+        Check.ruleFault("style 1 if or off", 11);
+        Check.ruleFault("style 1 if and", 11);
+        Check.ruleFault("style 1 if mine < off", 18);
+        Check.ruleFault("style 1 if mines < 3", 11);
+        Check.ruleFault("style 1 if ((((((off))))))", -1);
+        Check.ruleFault("style 1 if (((((((off)))))))", 17);
+        Check.ruleFault("style 1 if not not not not not not off", -1);
+        Check.ruleFault("style 1 if not not not not not not not off", 35);
+        Check.ruleFault("style 1 if not ( not ( not ( off ) and not not off ) )", -1);
+        Check.ruleFault("style 1 if not ( not ( not ( not off ) and not not off ) )", 29);
+        Check.ruleFault("style 1 if ((((((off)))))) and ((((((off or serving))))))", -1);
+        Check.ruleFault("rally 0 0 won 50", 0);
+        Check.ruleFault("style 1 if games + chases + line + 7 > 1 + 2", -1);
         String twelve = "style 1;style 1;style 1;style 1;style 1;style 1;style 1;style 1;style 1;style 1;style 1;style 1";
-        ruleFault(twelve, -1);
-        ruleFault(twelve + ";  style 1", twelve.length() + 3);
-        ruleFault(twelve + ";", twelve.length() + 1);
+        Check.ruleFault(twelve, -1);
+        Check.ruleFault(twelve + ";  style 1", twelve.length() + 3);
+        Check.ruleFault(twelve + ";", twelve.length() + 1);
     }
 
     private static void look() {
@@ -349,13 +322,13 @@ public final class PromisesTest {
 
     /** Texts that fill the tape, with as many things as there are bytes. */
     private static void fullTexts() {
-        courtFault(" ".repeat(400), -1);
-        courtFault(";".repeat(400), 0);
-        ruleFault("(".repeat(400), 0);
+        Check.courtFault(" ".repeat(400), -1);
+        Check.courtFault(";".repeat(400), 0);
+        Check.ruleFault("(".repeat(400), 0);
         String sum = "style 1 if " + "1+".repeat(193) + "1<9";
-        ruleFault(sum, -1);
-        ruleFault(sum.substring(0, 398) + "+9", 400);
-        ruleFault(sum.substring(0, 398) + "<+", 399);
+        Check.ruleFault(sum, -1);
+        Check.ruleFault(sum.substring(0, 398) + "+9", 400);
+        Check.ruleFault(sum.substring(0, 398) + "<+", 399);
         ChaseCourt x = new ChaseCourt();
         x.plays(0, Check.rule(x, "style 2 if 181<" + "1+".repeat(180) + "1;style 3"));
         Check.same("9 a sum of 181", x.style(0), 3);
