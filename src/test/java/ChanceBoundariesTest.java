@@ -66,6 +66,31 @@ public final class ChanceBoundariesTest {
         Check.same("5 rallies lose it", x.chance(1, 5) + " " + x.chance(1, 6), "0 " + WHOLE);
     }
 
+    @Boundary.Says("what is to be had from the SCORE behind by one RALLY less")
+    private static void terms3_chanceWhileChasesStandOrArePlayedOff() {
+        String dead = "rally 0 0 won 0;rally 0 0 lost 0;club 2;games 6;rally 0 0 dead ";
+        for (int line = 0; line < 10; line++) {
+            ChaseCourt x = Check.courtOf(dead + line + " 100");
+            for (int first = 0; first < 10; first++) {
+                for (int second = 0; second < 10; second += 3) {
+                    x.score(2, 1, 0);
+                    x.rally(2, first);
+                    x.rally(2, second);
+                    // PLAYER 0 strikes: both chases are his, or not
+                    boolean both = line < first && line < second;
+                    Check.same(line + " against " + first + " and " + second, x.chance(0, 2) + " " + x.chance(0, 1), (both ? WHOLE : 0) + " 0");
+                }
+            }
+        }
+        for (int line = 0; line < 10; line++) {
+            ChaseCourt x = at(dead + "5 100", 0, 3, 0);
+            x.rally(2, line);
+            // it stands: the next rally makes another one, then PLAYER 1 serves
+            Check.same("one stands at " + line, x.chance(1, 1) + " " + x.chance(1, 2), "0 " + (5 > line ? WHOLE : 0));
+            Check.same("the second is at 5: nobody's", x.chance(1, 3), 5 > line ? WHOLE : 0);
+        }
+    }
+
     @Boundary.Says("BEST: as CHANCE, but he takes, ahead of each RALLY, the STYLE by which it is the most, of several the least.")
     private static void terms3_bestOfSeveralTheLeast() {
         for (int server = 0; server < 2; server++) {
@@ -92,6 +117,25 @@ public final class ChanceBoundariesTest {
         Check.same("fewer", x.best(0, 3, false), 0);
         x.plays(1, Check.rule(x, "style 3"));
         Check.same("the other by his rule", x.best(0, 4, true) + " " + x.best(0, 4, false), "0 " + x.chance(0, 4));
+    }
+
+    @Boundary.Says("he takes, ahead of each RALLY, the STYLE by which it is the most")
+    private static void terms3_bestWhileAChaseIsPlayedOff() {
+        String off = "rally 0 0 won 0;rally 0 0 lost 0;rally 0 0 dead 5 100;club 1";
+        ChaseCourt x = Check.courtOf(off, "rally 0 1 won 0;rally 0 1 lost 0;rally 0 1 dead 9 60;rally 0 1 dead 0 40",
+            "rally 0 2 won 0;rally 0 2 lost 0;rally 0 2 dead 9 55;rally 0 2 dead 0 45", "rally 0 3 won 54;rally 0 3 lost 46",
+            "rally 1 0 won 0;rally 1 0 lost 0;rally 1 0 dead 6 60;rally 1 0 dead 4 40", "rally 3 0 won 0;rally 3 0 lost 39;rally 3 0 dead 9 61");
+        x.score(3, 0, 0);
+        x.rally(2, 5);
+        Check.same("the striker loses it least", x.best(0, 1, true) + " " + x.best(0, 1, false), "3 460000000");
+        x.score(3, 0, 1);
+        x.rally(2, 5);
+        Check.same("the server", x.best(0, 1, true) + " " + x.best(0, 1, false), "3 610000000");
+        x.plays(1, Check.rule(x, "style 2"));
+        Check.same("against 2 worse than 5 is his by style 0", x.best(0, 1, true) + " " + x.best(0, 1, false), "0 550000000");
+        x.score(0, 3, 1);
+        x.rally(2, 5);
+        Check.same("of the other, who strikes: 0 serves by style 0", x.best(1, 1, true) + " " + x.best(1, 1, false), "3 460000000");
     }
 
     @Boundary.Says({"BISQUE: as CHANCE, but ahead of each RALLY (with 1 left at least) he may once take a BISQUE instead of going on: if it is more so",
@@ -148,9 +192,8 @@ public final class ChanceBoundariesTest {
 
     // ---- Terms: sets and handicaps ----
 
-    /** SET from the ways of whole games alone: the game that is now begins now. */
-    private static long set(ChaseCourt x, int player, int[] games, int server, int rallies) {
-        int enough = x.count(2);
+    /** SET from the ways of whole games alone (server, winner, then): the game that is now begins now. */
+    private static long set(long[] ways, int player, int[] games, int server, int enough) {
         if (games[player] >= enough) {
             return WHOLE;
         }
@@ -162,23 +205,39 @@ public final class ChanceBoundariesTest {
             for (int then = 0; then < 2; then++) {
                 int[] behind = games.clone();
                 behind[winner]++;
-                sum += x.ways(server, winner, then, rallies) * set(x, player, behind, then, rallies) / WHOLE;
+                long chance = ways[server * 4 + winner * 2 + then];
+                sum += chance == 0 ? 0 : chance * set(ways, player, behind, then, enough) / WHOLE;
             }
         }
         return sum;
+    }
+
+    private static long[] waysOf(ChaseCourt x, int rallies) {
+        long[] ways = new long[8];
+        for (int n = 0; n < 8; n++) {
+            ways[n] = x.ways(n / 4, n / 2 % 2, n % 2, rallies);
+        }
+        return ways;
     }
 
     @Boundary.Says({"SET: by so many RALLIES for each GAME: a GAME ends in four ways (who wins it; who is at END 0 then): the chance of each from BEGIN, by who is at END 0, as CHANCE;",
         "That a PLAYER wins the SET: 1000000000, if he has GAMES enough, 0 if the other has; else the sum over the four ways: their chance times that behind, by 1000000000, each rounded down."})
     private static void terms3_setByTheFourWays() {
         String[] texts = {"games 2;rally 0 0 won 33;rally 0 0 lost 37;rally 0 0 dead 3 13;rally 0 0 dead 7 17",
-            "games 1;rally 0 0 won 47;rally 0 0 lost 53", "games 2;club 1;even 1;rally 0 0 won 21;rally 0 0 lost 20;rally 0 0 dead 4 59"};
+            "games 1;rally 0 0 won 47;rally 0 0 lost 53", "games 3;club 1;even 1;rally 0 0 won 21;rally 0 0 lost 20;rally 0 0 dead 4 59",
+            "games 6;rally 0 0 won 51;rally 0 0 lost 49", "games 6;club 2;rally 0 0 won 31;rally 0 0 lost 29;rally 0 0 dead 0 40"};
+        int[][] games = {{0, 0}, {3, 4}, {5, 3}, {4, 5}, {2, 3}, {0, 2}, {1, 0}};
         for (String text : texts) {
-            for (int server = 0; server < 2; server++) {
-                for (int player = 0; player < 2; player++) {
-                    ChaseCourt x = at(text, -1, 1, server);
-                    x.begin(1, 1);
-                    Check.same("set", x.set(player, 11), set(x, player, new int[] {0, 0}, server, 11));
+            for (int n = 0; n < 2 * games.length; n++) {
+                int[] now = games[n / 2];
+                ChaseCourt x = at(text, -1, 1, n % 2);
+                x.begin(1, 1);
+                // from far off there are too many ways to go through one by one
+                if (Math.max(now[0], now[1]) < x.count(2) && x.count(2) - Math.max(now[0], now[1]) <= 3) {
+                    x.games(now[0], now[1]);
+                    long[] ways = waysOf(x, 11);
+                    Check.same("set", x.set(0, 11), set(ways, 0, now, n % 2, x.count(2)));
+                    Check.same("set of the other", x.set(1, 11), set(ways, 1, now, n % 2, x.count(2)));
                 }
             }
         }
@@ -257,6 +316,7 @@ public final class ChanceBoundariesTest {
         x.plays(0, Check.rule(x, "style 3 if his > 3"));
         Check.same("farther", x.even(30, 2128), -1);
         Check.same("not farther", x.even(30, 2129), 0);
+        Check.same("of PLAYER 0, by 4 and by 3", x.even(4, 2129) + " " + x.even(3, 499999), "0 -1");
         ChaseCourt y = evenFrom(0);
         Check.court(y, "rally 1 0 won 60;rally 1 0 lost 40");
         Check.same("above: just as far", y.even(30, 100000) + " " + y.even(30, 99999), "0 -1");

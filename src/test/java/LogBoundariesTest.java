@@ -83,6 +83,7 @@ public final class LogBoundariesTest {
         x.rally(2, 4);
         String before = Check.all(x);
         // 0 serves since the chase: at 3 it is PLAYER 1's point, at 5 PLAYER 0's game
+        Check.same("rallies behind a chase that was played off", log(x, "d4d5d6d5d3", 0) + " " + log(x, "d4d5d6d5d3", 1), "3 2");
         Check.same("from the score now on", log(x, "d3", 1) + " " + log(x, "d3", 6) + " " + log(x, "d5", 7), "1 0 1");
         Check.same("nothing stays", Check.all(x), before);
     }
@@ -101,6 +102,15 @@ public final class LogBoundariesTest {
         // at lines where none is better, or worse: the call may be wrong all the same
         mends(x, "d0d0", "1 1", 1, 0, 0, 0);
         mends(x, "d9d9", "1 1", 0, 1, 0, 0);
+        x.score(0, 3, 0);
+        x.games(1, 4);
+        mends(x, "d5d4", "0 1", 1, 3, 1, 4);
+        mends(x, "d5d4", "1 1", 0, 0, 1, 5);
+        mends(x, "d5d4d5d6", "0 1", 2, 3, 1, 4);
+        mends(x, "d5d4d5d6", "1 1", 1, 0, 1, 5);
+        mends(x, "d5d4d5d6", "1 1", 0, 0, 1, 5);
+        x.score(0, 0, 0);
+        x.games(0, 0);
         // a chase that is made, and one that is won or lost, were not called
         mends(x, "d5", "-1 0", 1, 0, 0, 0);
         mends(x, "d5w0", "-1 0", 1, 0, 0, 0);
@@ -236,9 +246,9 @@ public final class LogBoundariesTest {
         String first = Check.all(x);
         x.image();
         Check.court(x, "games 1;club 0;even 0;rally 0 0 won 50;rally 0 0 lost 50;rally 0 0 dead 4 0");
-        Check.rule(x, "style 3");
-        x.plays(0, 1);
-        x.plays(1, 1);
+        Check.rule(x, "style 0");
+        x.plays(0, 2);
+        x.plays(1, 2);
         x.games(0, 0);
         x.begin(0, 0);
         x.score(0, 0, 1);
@@ -276,7 +286,8 @@ public final class LogBoundariesTest {
     private static ChaseCourt told() {
         ChaseCourt x = Check.courtOf("games 4;club 2;even 1;rally 0 0 won 40;rally 0 0 lost 50;rally 0 0 dead 4 10");
         Check.rule(x, "style 2 if serving;style 1");
-        x.plays(0, 0);
+        Check.rule(x, "style 3");
+        x.plays(0, 1);
         x.plays(1, 0);
         x.begin(2, 1);
         x.games(1, 2);
@@ -308,7 +319,7 @@ public final class LogBoundariesTest {
         leaves("look, style", INDEX, false, x -> x.look(4, 0, 0));
         leaves("look, what", ELEMENT, false, x -> x.look(0, 0, 12));
         leaves("plays, player", INDEX, false, x -> x.plays(2, -1));
-        leaves("plays, rule", INDEX, false, x -> x.plays(0, 1));
+        leaves("plays, rule", INDEX, false, x -> x.plays(0, 2));
         leaves("style", INDEX, false, x -> x.style(2));
         leaves("score, player", INDEX, false, x -> done(() -> x.score(0, 0, 2)));
         leaves("score, points", ARGUMENT, false, x -> done(() -> x.score(3, 5, 0)));
@@ -352,7 +363,7 @@ public final class LogBoundariesTest {
         ChaseCourt mends = told();
         usesUp("mends", ARGUMENT, mends, "w0l0w1", () -> mends.mends(0, 0, 0, 0, true));
         ChaseCourt full = told();
-        for (int n = 1; n < 6; n++) {
+        while (full.count(1) < 6) {
             Check.rule(full, "style 1");
         }
         usesUp("rule", UNSUPPORTED, full, "style 3", full::rule);
@@ -565,8 +576,8 @@ public final class LogBoundariesTest {
         ChaseCourt x = told();
         x.image();
         String kept = Check.all(x);
-        for (int n = 0; n < 5; n++) {
-            x.plays(0, Check.rule(x, "style 3"));
+        for (int n = 0; n < 4; n++) {
+            x.plays(n % 2, Check.rule(x, "style " + n));
             Check.court(x, "rally 0 0 won 49;rally 0 0 lost 41;even 0");
             x.rally(2, n);
         }

@@ -497,6 +497,63 @@ public final class TextBoundariesTest {
         Check.courtFault(" ".repeat(396) + "club", 400);
     }
 
+    private static final String[] THINGS = {"rally", "won", "lost", "dead", "games", "club", "even", "style", "if", "or", "and",
+        "not", "serving", "off", "mine", "his", "line", "chases", "player", "a", "1", ";", "(", ")", "+", "<", ">", "=", "-", "{", "S"};
+
+    /** Of all things those alone can stand behind the text: each other one is wrong where it begins. */
+    private static void canStand(boolean rule, String text, String... allowed) {
+        for (String thing : THINGS) {
+            String whole = text + " " + thing;
+            ChaseCourt x = new ChaseCourt();
+            Check.put(x, whole);
+            try {
+                int number = rule ? x.rule() : x.court();
+                Check.same("'" + whole + "' is right", number, rule ? 0 : 1);
+            } catch (IllegalArgumentException e) {
+                Check.same("'" + whole + "' is wrong somewhere", x.fault() >= 0, true);
+            }
+            boolean may = java.util.Arrays.asList(allowed).contains(thing);
+            Check.same("'" + whole + "' is wrong there", x.fault() == text.length() + 1, !may);
+        }
+    }
+
+    @Boundary.Says("The first wrong byte: the begin of the first thing that cannot stand there")
+    private static void terms1_whatCanStandInATextOfTheCourt() {
+        canStand(false, "", "rally", "games", "club", "even");
+        canStand(false, "club 1 ;", "rally", "games", "club", "even");
+        for (String text : new String[] {"rally", "rally 0", "rally 0 0 won", "rally 0 0 lost", "rally 0 0 dead", "rally 0 0 dead 1",
+            "games", "club", "even"}) {
+            canStand(false, text, "1");
+        }
+        canStand(false, "rally 0 0", "won", "lost", "dead");
+        for (String text : new String[] {"rally 0 0 won 50", "rally 0 0 lost 50", "rally 0 0 dead 1 0", "games 1", "club 1", "even 1"}) {
+            canStand(false, text, ";");
+        }
+    }
+
+    @Boundary.Says("The first wrong byte: the begin of the first thing that cannot stand there")
+    private static void terms1_whatCanStandInARule() {
+        canStand(true, "", "style");
+        canStand(true, "style 1 ;", "style");
+        canStand(true, "style 1 if off ;", "style");
+        canStand(true, "style", "1");
+        canStand(true, "style 1", "if", ";");
+        for (String text : new String[] {"if", "if not", "if (", "if off and", "if off or", "if ( not", "if off or ( off and"}) {
+            canStand(true, "style 1 " + text, "not", "(", "serving", "off", "1", "mine", "his", "line", "chases", "games");
+        }
+        for (String text : new String[] {"off", "serving", "( off )", "not off", "off and off", "off or off"}) {
+            canStand(true, "style 1 if " + text, "and", "or", ";");
+            canStand(true, "style 1 if ( " + text, "and", "or", ")");
+        }
+        for (String part : new String[] {"mine", "his", "line", "chases", "games", "7", "mine + 7"}) {
+            canStand(true, "style 1 if " + part, "+", "<", ">");
+            canStand(true, "style 1 if " + part + " +", "1", "mine", "his", "line", "chases", "games");
+            canStand(true, "style 1 if " + part + " <", "1", "mine", "his", "line", "chases", "games");
+            canStand(true, "style 1 if 7 > " + part, "+", "and", "or", ";");
+            canStand(true, "style 1 if ( 7 > " + part, "+", "and", "or", ")");
+        }
+    }
+
     @Boundary.Says("Of a wrong text nothing stays.")
     private static void terms1_ofAWrongTextNothingStays() {
         String told = "games 4;club 2;even 1;rally 0 0 won 40;rally 0 0 lost 60";
@@ -551,13 +608,13 @@ public final class TextBoundariesTest {
     private static void terms1_lineIs10Without() {
         ChaseCourt x = new ChaseCourt();
         part(x, 0, "line", 10);
-        x.rally(2, 0);
-        part(x, 0, "line", 0);
         x.rally(2, 9);
-        part(x, 1, "line", 0);
+        part(x, 0, "line", 9);
         x.rally(2, 0);
         part(x, 1, "line", 9);
         x.rally(2, 9);
+        part(x, 1, "line", 0);
+        x.rally(2, 0);
         part(x, 1, "line", 10);
     }
 
@@ -716,6 +773,41 @@ public final class TextBoundariesTest {
         Check.put(x, "rally 0 0 won 49");
         Check.fails("wrong at its length is told first", ARGUMENT, x::court);
         Check.same("nothing changed", Check.held(x), before);
+    }
+
+    @Boundary.Says("Uses the TAPE up: a text of THE COURT:")
+    private static void promise04_aTextOf400Bytes() {
+        Check.courtFault("club 1" + " ".repeat(387) + ";club 2", -1);
+        Check.courtFault(" ".repeat(394) + "club 1", -1);
+        Check.courtFault(" ".repeat(395) + "club1", -1);
+        Check.courtFault(" ".repeat(394) + "club 3", 399);
+        // as many things as bytes
+        Check.courtFault(";".repeat(400), 0);
+        Check.courtFault("z".repeat(400), 0);
+        Check.courtFault("1".repeat(400), 0);
+        Check.courtFault("club" + "1".repeat(396), 4);
+    }
+
+    @Boundary.Says("Uses the TAPE up: a RULE:")
+    private static void promise05_aRuleOf400Bytes() {
+        String sum = "style 1 if " + "1+".repeat(193) + "1<9";
+        Check.ruleFault(sum, -1);
+        Check.ruleFault(sum.substring(0, 398) + "+9", 400);
+        Check.ruleFault(sum.substring(0, 398) + "<+", 399);
+        Check.ruleFault("(".repeat(400), 0);
+        Check.ruleFault("style 1 if " + "(".repeat(389), 17);
+        ChaseCourt x = new ChaseCourt();
+        x.plays(0, Check.rule(x, sum));
+        Check.same("194 are not below 9", x.style(0), 0);
+        x.plays(0, Check.rule(x, sum.replace('<', '>')));
+        Check.same("194 are above 9", x.style(0), 1);
+        x.plays(0, Check.rule(x, "style 2 if " + "not off or ".repeat(35) + "off"));
+        Check.same("one of 36 is enough", x.style(0), 2);
+        x.plays(0, Check.rule(x, "style 2 if " + "not off and ".repeat(32) + "off"));
+        Check.same("one of 33 is too many", x.style(0), 0);
+        // six levels, in each of which an "or" and an "and" wait for what is inside
+        x.plays(0, Check.rule(x, "style 3 if " + "off or 1>0 and (".repeat(6) + "off or 1>0 and 1+1<1+1+1" + ")".repeat(6)));
+        Check.same("six deep", x.style(0), 3);
     }
 
     @Boundary.Says({"Uses the TAPE up: a RULE: its number.", "IllegalArgumentException: the text is wrong; UnsupportedOperationException: there are 6."})
