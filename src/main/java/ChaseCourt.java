@@ -281,7 +281,6 @@ public final class ChaseCourt {
         }
         Odds asked = freshOdds(NONE, NONE);
         int[] places = new int[16];
-        trial.takeFrom(now.score);
         for (int i = 0; i < 16; i++) {
             trial.restart(-(i / 4), i % 4, now.score.server);
             places[i] = asked.placeOf(trial);
