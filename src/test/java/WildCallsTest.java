@@ -6,10 +6,13 @@ import java.util.Arrays;
 import java.util.Comparator;
 import java.util.List;
 import java.util.Random;
+import java.util.Set;
+import java.util.TreeSet;
 
 /**
- * Calls with wild arguments in wild states, up to the 512 that an object is used for: a call answers, or throws one of
- * the exceptions that it declares, and never one of the machine's; and two objects answer the same calls the same way.
+ * Random calls with wild arguments, up to the 512 that an object is used for: a call answers, or throws one of the
+ * exceptions that it declares, and never one of the machine's; and two objects answer the same calls the same way. Each
+ * method must have answered, and thrown each exception that it declares, at least once: else the runs tell too little.
  * Arguments: first seed, runs.
  */
 public final class WildCallsTest {
@@ -24,6 +27,9 @@ public final class WildCallsTest {
         "style 1", "style 1 if serving;style 2 if off or line<5;style 3 if mine+his>games+6",
         "style 3 if not (not (not (off and serving)))", "style 2 if ((((((1<2))))))", "style 2 if (((((((1<2)))))))",
         "style 0 if 999+999+999>line+chases", "d0d9d4", "w0l0d3d3d3", "d5d5d5d5d5d5d5d5d5d5d5d5d5d5d5", "w0w0w0w0w0", "d"};
+
+    /** What came of calls, by the method's name. */
+    private static final Set<String> SEEN = new TreeSet<>();
 
     private final Random random;
     private final long seed;
@@ -49,6 +55,12 @@ public final class WildCallsTest {
         for (long seed = first; seed < first + runs; seed++) {
             new WildCallsTest(seed).go(face);
         }
+        for (Method m : face) {
+            Check.same(m.getName() + " answered", SEEN.contains(m.getName()), true);
+            for (Class<?> e : m.getExceptionTypes()) {
+                Check.same(m.getName() + " threw " + e.getSimpleName(), SEEN.contains(m.getName() + e.getName()), true);
+            }
+        }
         Check.close();
     }
 
@@ -59,7 +71,7 @@ public final class WildCallsTest {
                 feedText(face);
             } else {
                 Method m = face.get(random.nextInt(face.size()));
-                call(m, arguments(m, kind < 3));
+                call(m, arguments(m, kind < 2 ? 1 : 6));
             }
         }
     }
@@ -81,24 +93,30 @@ public final class WildCallsTest {
         call(named(face, "end"), text.length());
         String[] readers = {"court", "rule", "log", "mends"};
         Method reader = named(face, readers[random.nextInt(readers.length)]);
-        call(reader, arguments(reader, false));
+        call(reader, arguments(reader, 6));
     }
 
     private static Method named(List<Method> face, String name) {
         return face.stream().filter(m -> m.getName().equals(name)).findFirst().orElseThrow();
     }
 
-    private Object[] arguments(Method m, boolean wild) {
+    /** One argument of so many is wild: if all were, the one looked at first would hide the others. */
+    private Object[] arguments(Method m, int oneOf) {
         Class<?>[] types = m.getParameterTypes();
         Object[] given = new Object[types.length];
         for (int i = 0; i < types.length; i++) {
             if (types[i] == boolean.class) {
                 given[i] = random.nextBoolean();
             } else {
-                given[i] = wild ? WILD[random.nextInt(WILD.length)] : random.nextInt(random.nextInt(3) == 0 ? 8 : 2);
+                given[i] = random.nextInt(oneOf) == 0 ? WILD[random.nextInt(WILD.length)] : tame();
             }
         }
         return given;
+    }
+
+    private int tame() {
+        int[] bounds = {2, 2, 2, 2, 8, 31};
+        return random.nextInt(bounds[random.nextInt(bounds.length)]);
     }
 
     private void call(Method m, Object... given) throws Exception {
@@ -112,12 +130,15 @@ public final class WildCallsTest {
 
     private static String answer(String what, ChaseCourt x, Method m, Object[] given) throws Exception {
         try {
-            return String.valueOf(m.invoke(x, given));
+            String got = String.valueOf(m.invoke(x, given));
+            SEEN.add(m.getName());
+            return got;
         } catch (InvocationTargetException e) {
             Class<?> thrown = e.getCause().getClass();
             if (!Arrays.asList(m.getExceptionTypes()).contains(thrown)) {
                 Check.same(what, thrown.getName(), "an answer, or an exception that the face declares");
             }
+            SEEN.add(m.getName() + thrown.getName());
             return "throws." + thrown.getSimpleName();
         }
     }
